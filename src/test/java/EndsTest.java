@@ -142,6 +142,12 @@ public final class EndsTest {
             z.person(p, 1, p + 1);
         }
         c.due("tenths of others", z.worth(0), 90000000);
+        z.person(0, 0, 1);
+        z.pay(0, 0, 1);
+        for (int p = 0; p < 8; p++) {
+            z.person(p, 1, 10);
+        }
+        c.due("when it's paid and all fail", z.worth(0), 100000000);
     }
 
     private static void balances() {

@@ -83,8 +83,8 @@ public final class ModelTest {
     private void oneCall() {
         int a = num(8);
         int b = num(3);
-        int s = num(12);
-        int d = num(8);
+        int s = num(16);
+        int d = num(10);
         int of = num(2);
         int set = chance(2) ? 1 << random.nextInt(8) : num(256);
         switch (random.nextInt(27)) {
@@ -134,7 +134,7 @@ public final class ModelTest {
 
     private String papersText() {
         StringBuilder b = new StringBuilder();
-        int debts = 1 + random.nextInt(9);
+        int debts = chance(4) ? 10 : 1 + random.nextInt(10);
         int people = 3 + random.nextInt(6);
         int[] debtor = new int[debts];
         int coins = chance(2) ? 40 : 999;
@@ -143,10 +143,10 @@ public final class ModelTest {
             int to = (debtor[i] + 1 + random.nextInt(people - 1)) % people;
             b.append("debt").append(letter(debtor[i])).append(letter(to)).append(1 + random.nextInt(coins)).append(';');
         }
-        int standings = random.nextInt(15);
+        int standings = chance(4) ? 16 : random.nextInt(17);
         int[] who = new int[standings];
         boolean[] over = new boolean[standings];
-        for (int i = 0; i < standings && b.length() < 370; i++) {
+        for (int i = 0; i < standings && b.length() < 382; i++) {
             who[i] = random.nextInt(people);
             int under = i == 0 ? -1 : random.nextInt(i);
             if (chance(4) && under >= 0 && !over[under] && who[under] != who[i]) {

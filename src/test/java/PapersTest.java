@@ -107,6 +107,7 @@ public final class PapersTest {
         faultAtMark("|;");
         faultAtMark("|debts A B 5;");
         faultAtMark("|deb");
+        faultAtMark("|debtz A B 5;");
         faultAtMark("|Debt A B 5;");
         faultAtMark("|A");
         faultAtMark("|5");
