@@ -1,4 +1,4 @@
-/** Counts answers that are not as due, and types texts into a SuretyRoll. */
+/** Counts answers that are not as due, and types texts (of bytes 0 .. 255) into a SuretyRoll. */
 final class Checks {
     private int wrong = 0;
     private int asked = 0;
@@ -33,6 +33,24 @@ final class Checks {
         if (wrong != 0 || asked == 0) {
             System.exit(1);
         }
+    }
+
+    /** papers() of a text answers as wanted, and empties THE TEXT or, with a FAULT, changes nothing. */
+    void reads(String text, int want) {
+        SuretyRoll x = new SuretyRoll();
+        type(x, text);
+        due("papers of '" + text + "'", x.papers(), want);
+        due("count(4) after '" + text + "'", x.count(4), want < 0 ? text.length() : 0);
+        if (want < 0) {
+            due("count(0) after '" + text + "'", x.count(0), 0);
+            due("count(1) after '" + text + "'", x.count(1), 0);
+        }
+    }
+
+    /** The mark | stands where FAULT is; it is not part of the text. */
+    void faultAtMark(String marked) {
+        int place = marked.indexOf('|');
+        reads(marked.substring(0, place) + marked.substring(place + 1), -10 - place);
     }
 
     static void type(SuretyRoll x, String text) {

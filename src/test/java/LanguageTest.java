@@ -1,3 +1,4 @@
+import java.lang.reflect.Field;
 import java.lang.reflect.Member;
 import java.lang.reflect.Method;
 import java.lang.reflect.Modifier;
@@ -16,6 +17,10 @@ public final class LanguageTest {
 
     public static void main(String[] args) throws Exception {
         face();
+        sizes(SuretyRoll.class);
+        for (Class<?> inside : SuretyRoll.class.getDeclaredClasses()) {
+            sizes(inside);
+        }
         source(Files.readString(Path.of(args[0])));
         c.finish();
     }
@@ -50,6 +55,24 @@ public final class LanguageTest {
         c.due("NO", SuretyRoll.NO, -1000000);
     }
 
+    /** Rules 3, 5 and 11, as far as a class shows them. */
+    private static void sizes(Class<?> type) {
+        c.part(type.getName());
+        int own = 0;
+        for (Field f : type.getDeclaredFields()) {
+            if (Modifier.isStatic(f.getModifiers())) {
+                c.due("final: " + f.getName(), Modifier.isFinal(f.getModifiers()) ? 1 : 0, 1);
+            } else {
+                own++;
+            }
+            c.due("one dimension: " + f.getName(), f.getType().getName().startsWith("[[") ? 1 : 0, 0);
+        }
+        c.due("twenty fields at most, of " + own, own <= 20 ? 1 : 0, 1);
+        for (Method m : type.getDeclaredMethods()) {
+            c.due("seven parameters at most: " + m.getName(), m.getParameterCount() <= 7 ? 1 : 0, 1);
+        }
+    }
+
     private static void source(String text) {
         c.part("source");
         String code = text.replaceAll("(?s)/\\*.*?\\*/", "").replaceAll("//[^\n]*", "").replaceAll("\"[^\"]*\"", "\"\"");
@@ -60,6 +83,11 @@ public final class LanguageTest {
         c.due("uses of Arrays but for fill", count(code, "\\bArrays\\.(?!fill\\()"), 0);
         c.due("twelve classes at most", count(code, "\\bclass\\b") > 12 ? 1 : 0, 0);
         c.due("a method of 60 lines at most", longestMethod(code) > 60 ? 1 : 0, 0);
+        // what is made is made once, with the object: in fields, and in its constructor
+        int made = count(code, "\\bnew\\b");
+        int inFields = count(code, "(?m)^ +(private )?(final )?[\\w\\[\\]]+ \\w+ = new\\b");
+        int inConstructor = count(code.substring(code.indexOf("public SuretyRoll()"), code.indexOf("public int type")), "\\bnew\\b");
+        c.due("things made in calls", made - inFields - inConstructor, 0);
     }
 
     private static int count(String code, String pattern) {

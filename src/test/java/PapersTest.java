@@ -72,130 +72,113 @@ public final class PapersTest {
         c.due("papers of bytes 255", y.papers(), -10);
     }
 
-    private static void reads(String text, int want) {
-        SuretyRoll x = new SuretyRoll();
-        Checks.type(x, text);
-        c.due("papers of '" + text + "'", x.papers(), want);
-        c.due("count(4) after '" + text + "'", x.count(4), want < 0 ? text.length() : 0);
-        if (want < 0) {
-            c.due("count(0) after '" + text + "'", x.count(0), 0);
-            c.due("count(1) after '" + text + "'", x.count(1), 0);
-        }
-    }
-
-    /** The mark | stands where FAULT is; it is not part of the text. */
-    private static void faultAtMark(String marked) {
-        int place = marked.indexOf('|');
-        reads(marked.substring(0, place) + marked.substring(place + 1), -10 - place);
-    }
-
     private static void readingItems() {
         c.part("4 papers");
-        reads("", 0);
-        reads("   ", 0);
-        reads("debt A B 1;", 1);
-        reads("debt H A 999;", 1);
-        reads("debtAB5;", 1);
-        reads("  debt  A  B  5  ;  ", 1);
-        reads("debtAB5;standC0 5whole;overD0 5;", 3);
-        reads("debt A B 5;stand C 0 5 part 1 / 20;stand C 0 5 part 20/20;stand B 0 5 behind;", 4);
-        reads("debt A B 5;stand C 0 5 part 7/7;over A 0 9;over A 0 9;", 4);
+        c.reads("", 0);
+        c.reads("   ", 0);
+        c.reads("debt A B 1;", 1);
+        c.reads("debt H A 999;", 1);
+        c.reads("debtAB5;", 1);
+        c.reads("  debt  A  B  5  ;  ", 1);
+        c.reads("debtAB5;standC0 5whole;overD0 5;", 3);
+        c.reads("debt A B 5;stand C 0 5 part 1 / 20;stand C 0 5 part 20/20;stand B 0 5 behind;", 4);
+        c.reads("debt A B 5;stand C 0 5 part 7/7;over A 0 9;over A 0 9;", 4);
     }
 
     private static void faultsOfTokens() {
         c.part("4 FAULT of tokens");
-        faultAtMark("|;");
-        faultAtMark("|debts A B 5;");
-        faultAtMark("|deb");
-        faultAtMark("|debtz A B 5;");
-        faultAtMark("|Debt A B 5;");
-        faultAtMark("|A");
-        faultAtMark("|5");
-        faultAtMark("|/");
-        faultAtMark("|whole");
-        faultAtMark("debt |I B 5;");
-        faultAtMark("debt |a B 5;");
-        faultAtMark("debt A |\t B 5;");
-        faultAtMark("debt A B |05;");
-        faultAtMark("debt A B |00;");
-        faultAtMark("debt A B |0;");
-        faultAtMark("debt A B |1000;");
-        faultAtMark("debt A B |99999999999999999999;");
-        faultAtMark("debt A B |-5;");
-        faultAtMark("debt A B |;");
-        faultAtMark("debt A B 5|x;");
-        faultAtMark("debt A B 5 |5;");
-        faultAtMark("debt A B 5;|;");
-        faultAtMark("debt A B 5; |whole;");
-        reads("debt A B 5;debt", -25);
+        c.faultAtMark("|;");
+        c.faultAtMark("|debts A B 5;");
+        c.faultAtMark("|deb");
+        c.faultAtMark("|debtz A B 5;");
+        c.faultAtMark("|Debt A B 5;");
+        c.faultAtMark("|A");
+        c.faultAtMark("|5");
+        c.faultAtMark("|/");
+        c.faultAtMark("|whole");
+        c.faultAtMark("debt |I B 5;");
+        c.faultAtMark("debt |a B 5;");
+        c.faultAtMark("debt A |\t B 5;");
+        c.faultAtMark("debt A B |05;");
+        c.faultAtMark("debt A B |00;");
+        c.faultAtMark("debt A B |0;");
+        c.faultAtMark("debt A B |1000;");
+        c.faultAtMark("debt A B |99999999999999999999;");
+        c.faultAtMark("debt A B |-5;");
+        c.faultAtMark("debt A B |;");
+        c.faultAtMark("debt A B 5|x;");
+        c.faultAtMark("debt A B 5 |5;");
+        c.faultAtMark("debt A B 5;|;");
+        c.faultAtMark("debt A B 5; |whole;");
+        c.reads("debt A B 5;debt", -25);
     }
 
     private static void faultsOfDebts() {
         c.part("4 FAULT of debts");
-        faultAtMark("debt A |A 5;");
-        faultAtMark("debt|");
-        faultAtMark("debt  |");
-        faultAtMark("debt A|");
-        faultAtMark("debt A B|");
-        faultAtMark("debt A B 5|");
-        faultAtMark("debt A B 5   |");
-        faultAtMark("debt |5");
-        faultAtMark("debt A |5");
-        faultAtMark("debt A B 5 |debt");
+        c.faultAtMark("debt A |A 5;");
+        c.faultAtMark("debt|");
+        c.faultAtMark("debt  |");
+        c.faultAtMark("debt A|");
+        c.faultAtMark("debt A B|");
+        c.faultAtMark("debt A B 5|");
+        c.faultAtMark("debt A B 5   |");
+        c.faultAtMark("debt |5");
+        c.faultAtMark("debt A |5");
+        c.faultAtMark("debt A B 5 |debt");
     }
 
     private static void faultsOfStandings() {
         c.part("4 FAULT of standings");
-        faultAtMark("stand A |0 5 whole;");
-        faultAtMark("debt A B 5;stand |0 0 5 whole;");
-        faultAtMark("debt A B 5;stand A |0 5 whole;");
-        faultAtMark("debt A B 5;stand C |1 5 whole;");
-        faultAtMark("debt A B 5;stand C |00 5 whole;");
-        faultAtMark("debt A B 5;stand C 0 |0 whole;");
-        faultAtMark("debt A B 5;stand C 0 |1000 whole;");
-        faultAtMark("debt A B 5;stand C 0 5 |over;");
-        faultAtMark("debt A B 5;stand C 0 5 |;");
-        faultAtMark("debt A B 5;stand C 0 5 whole |part");
-        faultAtMark("debt A B 5;stand C 0 5 whole|");
-        faultAtMark("debt A B 5;stand C 0 5 behind |1");
-        faultAtMark("debt A B 5;stand C 0 5 part |;");
-        faultAtMark("debt A B 5;stand C 0 5 part |0/5;");
-        faultAtMark("debt A B 5;stand C 0 5 part |21/21;");
-        faultAtMark("debt A B 5;stand C 0 5 part 3 |3;");
-        faultAtMark("debt A B 5;stand C 0 5 part 3/|2;");
-        faultAtMark("debt A B 5;stand C 0 5 part 3/|21;");
-        faultAtMark("debt A B 5;stand C 0 5 part 3/|0;");
-        faultAtMark("debt A B 5;stand C 0 5 part 3/|;");
-        faultAtMark("debt A B 5;stand C 0 5 part 3/|");
-        faultAtMark("debt A B 5;stand C 0 5 part 3/3|");
-        reads("debt A B 5;stand B 0 5 whole;", 2);
+        c.faultAtMark("stand A |0 5 whole;");
+        c.faultAtMark("debt A B 5;stand |0 0 5 whole;");
+        c.faultAtMark("debt A B 5;stand A |0 5 whole;");
+        c.faultAtMark("debt A B 5;stand C |1 5 whole;");
+        c.faultAtMark("debt A B 5;stand C |00 5 whole;");
+        c.faultAtMark("debt A B 5;stand C 0 |0 whole;");
+        c.faultAtMark("debt A B 5;stand C 0 |1000 whole;");
+        c.faultAtMark("debt A B 5;stand C 0 5 |over;");
+        c.faultAtMark("debt A B 5;stand C 0 5 |;");
+        c.faultAtMark("debt A B 5;stand C 0 5 whole |part");
+        c.faultAtMark("debt A B 5;stand C 0 5 whole|");
+        c.faultAtMark("debt A B 5;stand C 0 5 behind |1");
+        c.faultAtMark("debt A B 5;stand C 0 5 part |;");
+        c.faultAtMark("debt A B 5;stand C 0 5 part |0/5;");
+        c.faultAtMark("debt A B 5;stand C 0 5 part |21/21;");
+        c.faultAtMark("debt A B 5;stand C 0 5 part 3 |3;");
+        c.faultAtMark("debt A B 5;stand C 0 5 part 3/|2;");
+        c.faultAtMark("debt A B 5;stand C 0 5 part 3/|21;");
+        c.faultAtMark("debt A B 5;stand C 0 5 part 3/|0;");
+        c.faultAtMark("debt A B 5;stand C 0 5 part 3/|;");
+        c.faultAtMark("debt A B 5;stand C 0 5 part 3/|");
+        c.faultAtMark("debt A B 5;stand C 0 5 part 3/3|");
+        c.reads("debt A B 5;stand B 0 5 whole;", 2);
     }
 
     private static void faultsOfOvers() {
         c.part("4 FAULT of overs");
-        faultAtMark("debt A B 5;over C |0 5;");
-        faultAtMark("debt A B 5;stand C 0 5 whole;over C |0 5;");
-        faultAtMark("debt A B 5;stand C 0 5 whole;over D |1 5;");
-        faultAtMark("debt A B 5;stand C 0 5 whole;over D 0 |0;");
-        faultAtMark("debt A B 5;stand C 0 5 whole;over D 0 5 |whole;");
-        faultAtMark("debt A B 5;stand C 0 5 whole;over D 0 5;over E |1 5;");
-        faultAtMark("debt A B 5;stand C 0 5 whole;over D 0 5|");
-        faultAtMark("debt A B 5;stand C 0 5 whole;over |;");
+        c.faultAtMark("debt A B 5;over C |0 5;");
+        c.faultAtMark("debt A B 5;stand C 0 5 whole;over C |0 5;");
+        c.faultAtMark("debt A B 5;stand C 0 5 whole;over D |1 5;");
+        c.faultAtMark("debt A B 5;stand C 0 5 whole;over D 0 |0;");
+        c.faultAtMark("debt A B 5;stand C 0 5 whole;over D 0 5 |whole;");
+        c.faultAtMark("debt A B 5;stand C 0 5 whole;over D 0 5;over E |1 5;");
+        c.faultAtMark("debt A B 5;stand C 0 5 whole;over D 0 5|");
+        c.faultAtMark("debt A B 5;stand C 0 5 whole;over |;");
     }
 
     private static void fullPapers() {
         c.part("4 papers as many as may be");
         String ten = "debtAB1;".repeat(10);
-        reads(ten, 10);
-        faultAtMark(ten + "|debtAB1;");
-        faultAtMark(ten + "|debt");
+        c.reads(ten, 10);
+        c.faultAtMark(ten + "|debtAB1;");
+        c.faultAtMark(ten + "|debt");
         String sixteen = "debtAB1;" + "standC0 1whole;".repeat(15) + "overD0 1;";
-        reads(sixteen, 17);
-        faultAtMark(sixteen + "|standC0 1whole;");
-        faultAtMark(sixteen + "|overD0 1;");
-        reads(sixteen + "debtAB1;", 18);
+        c.reads(sixteen, 17);
+        c.faultAtMark(sixteen + "|standC0 1whole;");
+        c.faultAtMark(sixteen + "|overD0 1;");
+        c.reads(sixteen + "debtAB1;", 18);
         String most = ten + "standC0 1whole;".repeat(16) + " ".repeat(80);
-        reads(most, 26);
+        c.reads(most, 26);
     }
 
     private static void readingAnew() {
