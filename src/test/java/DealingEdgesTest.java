@@ -425,6 +425,19 @@ public final class DealingEdgesTest {
         y.person(0, 2, 0);
         y.pay(1, 0, 7);
         c.due("the debtor is no more FALLEN", y.back(0, 2), 7);
+        // the first STANDING's, the last one's, A and H share, too; B, C and F do not stand
+        SuretyRoll z = with("debt G B 100;stand A 0 9 whole;stand D 0 90 whole;stand E 0 9 whole;stand H 0 9 whole;", 100);
+        fell(z, "G");
+        z.pay(1, 1, 8);
+        int[] want = {2, 0, 0, -1, 2, 0, 0, 2};
+        for (int p = 0; p < 8; p++) {
+            c.due("back(" + p + ", 3)", z.back(p, 3), want[p]);
+        }
+        SuretyRoll w = with("debt G B 100;stand D 0 90 whole;stand E 0 9 whole;", 100);
+        fell(w, "G");
+        w.pay(1, 0, 8);
+        c.due("A does not stand", w.back(0, 3), 0);
+        c.due("E stands", w.back(4, 3), 4);
     }
 
     private static void backTakes() {
@@ -615,11 +628,44 @@ public final class DealingEdgesTest {
             c.due("THE TEXT is not kept", x.count(4), 4);
             c.due("PAPERS are not kept", x.count(1), 2);
         }
+        everyBackIsKept();
         // what is kept is not what comes after
         x.restore(0);
         x.pay(0, 0, 9);
         x.restore(0);
         c.due("paid of the DEBT", x.debt(0, 3), 90);
+    }
+
+    /** Each person stands for each other one's DEBT in turn; what he has back comes again with the IMAGE. */
+    private static void everyBackIsKept() {
+        for (int payer = 0; payer < 8; payer++) {
+            StringBuilder b = new StringBuilder();
+            char p = (char) ('A' + payer);
+            for (char debtor = 'A'; debtor <= 'H'; debtor++) {
+                if (debtor != p) {
+                    b.append("debt ").append(debtor).append(' ').append(p).append(" 20;");
+                }
+            }
+            for (int d = 0; d < 7; d++) {
+                b.append("stand ").append(p).append(' ').append(d).append(" 20 whole;");
+            }
+            SuretyRoll x = with(b.toString(), 100);
+            x.keep(1);
+            for (int d = 0; d < 7; d++) {
+                x.pay(1, d, d + 1);
+            }
+            x.keep(0);
+            x.restore(1);
+            for (int d = 0; d < 7; d++) {
+                c.due("BACK at first", x.back(x.debt(d, 0), payer), 0);
+            }
+            x.restore(0);
+            for (int d = 0; d < 7; d++) {
+                c.due("BACK kept", x.back(x.debt(d, 0), payer), d + 1);
+                c.due("LEFT kept", x.standing(d, 4), 20 - d - 1);
+                c.due("REST kept", x.debt(d, 3), 20 - d - 1);
+            }
+        }
     }
 
     private static void imagesAreGone() {

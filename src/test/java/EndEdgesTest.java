@@ -36,6 +36,7 @@ public final class EndEdgesTest {
         worthByTenths();
         worthRestAtLeast();
         worthOfWhichStandings();
+        fullPapers();
         balanceTakes();
         balanceAtMost();
         fewestFromNoneToSeven();
@@ -372,6 +373,17 @@ public final class EndEdgesTest {
         x.person(0, 0, 6);
         c.due("it rests", x.rounds(1), 0);
         c.due("RESTS", x.rounds(0) > 0 ? 1 : 0, 1);
+        // C to B and A, B to C, A twice for C: 1 1 3 0 0, 1 1 1 0 0, 0 0 1 0 0, 0 0 0 1 1, 0 0 2 1 1,
+        // 1 1 2 1 1, and as in round 0 again
+        SuretyRoll y = Checks.of("debt C B 1;debt C A 1;debt B C 3;stand A 0 2 whole;stand A 0 4 whole;");
+        y.person(0, 0, 2);
+        c.due("RESTS", y.rounds(0), -9);
+        c.due("payments of round 0 come again in round 6", y.rounds(1), 6);
+        c.due("bears(0, 2)", y.bears(0, 2), 3);
+        c.due("bears(1, 0)", y.bears(1, 0), 0);
+        c.due("end(0)", y.end(0), 3);
+        c.due("end(1)", y.end(1), -2);
+        c.due("end(2)", y.end(2), 1);
     }
 
     private static void ringsInTheLastRoundLookedAt() {
@@ -486,7 +498,7 @@ public final class EndEdgesTest {
             {"stand C 0 25 whole;stand C 0 25 whole;", "0"}, {"stand C 0 25 whole;stand D 0 25 whole;", "1"},
             {"stand C 0 25 whole;over D 0 50;", "0"}, {"stand C 0 1 whole;stand C 0 50 behind;", "1"},
             {"stand C 0 50 behind;stand C 0 1 whole;", "1"}, {"stand C 1 50 whole;", "0"},
-            {"stand B 0 50 whole;", "1"}};
+            {"stand B 0 50 whole;", "1"}, {"stand H 0 50 whole;", "1"}};
         for (String[] r : rows) {
             SuretyRoll x = Checks.of("debt A B 50;debt A B 50;" + r[0]);
             x.person(0, 1, 10);
@@ -499,6 +511,43 @@ public final class EndEdgesTest {
             x.release(0, 2);
             c.due(r[0] + " released", x.worth(0), r[0].endsWith("50 behind;") && r[0].contains("C 0 1 ") ? ALL : 0);
         }
+    }
+
+    private static void fullPapers() {
+        c.part("10 DEBTS and 16 STANDINGS: the last one counts as the first");
+        // H owes ten times 9 and A stands sixteen times, for 1 each but for the last of 9
+        String most = "debtHB9;".repeat(10) + "standA9 1whole;".repeat(15) + "standA9 9behind;";
+        SuretyRoll x = Checks.of(most);
+        x.person(7, 2, 1);
+        c.due("BURDEN of A", x.burden(0, 0, 0), 15 + 9);
+        c.due("BURDEN of H", x.burden(7, 0, 0), 90);
+        c.due("HAS of B", x.burden(1, 0, 1), 0);
+        c.due("CHAIN", x.chain(0, 0), 128 + 1);
+        c.due("WORST", x.worst(), 1);
+        c.due("MAY LOSE", x.lose(0), -9);
+        c.due("ask of behind, A stands whole", x.ask(1, 15), 0);
+        x.person(7, 1, 10);
+        c.due("WORTH by the last one", x.worth(9), ALL);
+        c.due("WORTH of the first DEBT", x.worth(0), 0);
+        x.person(0, 0, 24);
+        c.due("bears(1, 15)", x.bears(1, 15), 9);
+        c.due("END of A", x.end(0), 0);
+        c.due("END of B", x.end(1), 24);
+        c.due("BALANCE", x.balance(1), 90);
+        c.due("release by LAW 2", x.release(0, 2), 14);
+        c.due("ask of behind", x.ask(1, 15), 9);
+        c.due("pay of behind", x.pay(1, 15, 9), 0);
+        // papers with fewer: nothing of those that were counts
+        x.person(7, 2, 1);
+        c.due("papers", Checks.read(x, "debtHB9;standC0 1behind;"), 2);
+        x.person(7, 2, 1);
+        c.due("ask of behind", x.ask(1, 0), 1);
+        c.due("BURDEN of A", x.burden(0, 255, 0), 0);
+        c.due("BURDEN of H", x.burden(7, 255, 0), 9);
+        c.due("BALANCE", x.balance(1), 9);
+        c.due("WORTH", x.worth(0), 0);
+        c.due("END of B", x.end(1), 9);
+        c.due("release by LAW 1", x.release(0, 1), 0);
     }
 
     private static void balanceTakes() {

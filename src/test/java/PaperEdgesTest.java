@@ -82,6 +82,11 @@ public final class PaperEdgesTest {
         c.reads(DEBT + " ".repeat(389), 1);
         c.faultAtMark(" ".repeat(399) + "|;");
         c.faultAtMark(" ".repeat(390) + "debt A B 5|");
+        c.faultAtMark(" ".repeat(396) + "debt|");
+        c.faultAtMark(" ".repeat(396) + "|part");
+        c.faultAtMark(" ".repeat(397) + "|deb");
+        c.faultAtMark(" ".repeat(394) + "debt A|");
+        c.faultAtMark(DEBT + "stand C 0 5 part 1" + " ".repeat(370) + "/|");
         c.reads(blanks, 0);
     }
 
@@ -134,6 +139,17 @@ public final class PaperEdgesTest {
         x.papers();
         c.due("clear after papers", x.clear(), 0);
         c.due("papers stay", x.count(0), 1);
+        c.part("3 THE TEXT is empty: what it had does not come again");
+        String[][] rows = {{"debt A B 55;", "debt A B 5|"}, {"debtdebt", "debt|"}, {"debt A B 5;;", "debt A B 5;"},
+            {"stand", "|s"}, {"debt A B", "debt|"}};
+        for (String[] row : rows) {
+            SuretyRoll y = new SuretyRoll();
+            Checks.type(y, row[0]);
+            y.clear();
+            int place = row[1].indexOf('|');
+            Checks.type(y, row[1].replace("|", ""));
+            c.due("papers of " + row[1] + " after " + row[0], y.papers(), place < 0 ? 1 : -10 - place);
+        }
     }
 
     private static void onlyByte32IsABlank() {
@@ -357,11 +373,14 @@ public final class PaperEdgesTest {
             String word = place[1];
             Checks.of(place[0] + word + place[2]);
             String cut = word.substring(0, word.length() - 1);
-            String last = "" + (char) (word.charAt(word.length() - 1) ^ 1);
-            String[] wrong = {cut, word.substring(1), word + "a", word + "z", "a" + word, word + word, cut + last,
+            String[] wrong = {cut, word.substring(1), word + "a", word + "z", "a" + word, word + word,
                 word.substring(0, 1), "z"};
             for (String w : wrong) {
                 c.faultAtMark(place[0] + "|" + w + place[2]);
+            }
+            for (int i = 0; i < word.length(); i++) {
+                String other = word.charAt(i) == 'z' ? "a" : "z";
+                c.faultAtMark(place[0] + "|" + word.substring(0, i) + other + word.substring(i + 1) + place[2]);
             }
             c.faultAtMark(place[0] + "|" + word.toUpperCase() + place[2]);
             // the bytes beside a .. z end a word and begin no TOKEN
